@@ -674,7 +674,7 @@ public final class WitnessPays {
                     truths = (truths >> 1) | (truths & 1);
                 } else {
                     int letter = what / LETTER_STEP;
-                    int n = isWithin(letter, subject.length - 1) ? subject[letter] : 0;
+                    int n = letter < subject.length ? subject[letter] : 0;
                     int relation = what % LETTER_STEP / RELATION_STEP;
                     int order = Integer.compare(n, what % RELATION_STEP);
                     truths = (truths << 1) | (order == relation - 1 ? 1 : 0);
@@ -888,7 +888,7 @@ public final class WitnessPays {
         }
 
         private void lookBy(Person one) {
-            one.eye = one.gone ? -1 : one.reach(law.sum(one, day), day);
+            one.eye = one.gone ? -1 : reachOf(one);
         }
 
         /** Holds good only behind look(), which is dear: it works out every REACH. */

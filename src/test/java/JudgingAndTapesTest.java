@@ -294,11 +294,13 @@ public final class JudgingAndTapesTest {
         c.due("60", x.tape(0, 4, 60), 1);
         c.due("read the last", x.read(0, 59), 0);
         c.due("put the last", x.item(0, 59, 7), 1);
+        c.due("put the first", x.item(0, 0, 7), 1);
         c.due("read the last", x.read(0, 59), 1);
         c.due("refused", x.tape(0, 0, 61), -2);
         c.due("so it stays", x.read(0, 59), 1);
         c.due("anew", x.tape(0, 3, 60), 1);
         c.due("all 0", x.read(0, 59), 0);
+        c.due("the first, too", x.read(0, 0), 0);
         c.due("a row of none", x.tape(5, 1, 0), 1);
         c.due("no place there", x.item(5, 0, 0), -13);
         c.due("nothing, whatever n is", x.tape(0, -1, -99), 1);

@@ -137,6 +137,12 @@ public final class PeopleAndLawsTest {
         x.walls(0);
         c.due("SHUN: REACH at that place", x.of(0, 7), 9);
         c.due("SHUN leaves one where it is", x.of(0, 2), 6);
+        WitnessPays y = new WitnessPays();
+        y.one(0, 0, 7);
+        Check.enact(y, "far 9 p=0");
+        c.due("SHUN: all is seen from everywhere", y.of(0, 7), 0);
+        Check.enact(y, "far 9 p=0;near 6 a=3");
+        c.due("SHUN: all but one is seen from there", y.of(0, 7), 3);
         c.due("ALONE of 0: 4", x.of(0, 8), 4);
         c.due("ALONE of 1: 9", x.of(1, 8), 9);
         x.set(1, 0, 6);
@@ -248,6 +254,24 @@ public final class PeopleAndLawsTest {
         c.due("its text stays", x.count(5), 6);
         c.due("FULL, whatever THE TEXT is", Check.enact(x, "!"), -4);
         c.due("the sixth holds", x.told(1), 2);
+        WitnessPays y = new WitnessPays();
+        y.one(0, 0, 0);
+        Check.enact(y, "fine 3;far 5 p=0;far 6 p=0&p=0|p=x");
+        c.due("after a fault", Check.enact(y, "far 1 p=0"), 0);
+        c.due("what was read ahead of it counts not: SUM", y.of(0, 5), 3);
+        c.due("nor FINE", y.told(1), 20);
+        StringBuilder many = new StringBuilder("far 1 p=0");
+        for (int i = 0; i < 22; i++) {
+            many.append("|p=0");
+        }
+        for (int i = 0; i < 5; i++) {
+            c.due("a long text with a fault at its end", Check.enact(y, many + "!"), -10 - 97);
+        }
+        c.due("after many faults", Check.enact(y, "far 2 p=1|p=0"), 1);
+        c.due("SUM", y.of(0, 5), 4);
+        c.due("ten CLAUSES", Check.enact(y, "far 1 p=0;far 1 p=0;far 1 p=0;fine 5;fine 5;fine 5;fine 5;fine 5;fine 6;far 5 p<1"), 2);
+        c.due("all count: SUM", y.of(0, 5), 10);
+        c.due("FINE", y.told(1), 6);
         c.due("six", x.count(1), 6);
     }
 
@@ -347,6 +371,10 @@ public final class PeopleAndLawsTest {
         dueHolds("!p=2", false);
         dueHolds("!!p=2", true);
         dueHolds("p=0|p=1|p=2", true);
+        dueHolds("p=0|p=1", false);
+        dueHolds("p=2&p=1", false);
+        dueHolds("p=1&p=2", false);
+        dueHolds("p=0|p=2&p=1", false);
         dueHolds("p=2&k=3&v=6", false);
         dueHolds("p=0&k=0|v=7", true);
         dueHolds("v=7|p=0&k=0", true);
@@ -397,6 +425,24 @@ public final class PeopleAndLawsTest {
         Check.enact(x, "far 9 p=0");
         c.due("HIDDEN: none", x.told(4), -5);
         c.due("none", x.told(5), 0);
+        for (int what = 4; what <= 7; what++) {
+            WitnessPays y = new WitnessPays();
+            y.one(0, 0, 0);
+            y.one(0, 0, 4);
+            y.told(what);
+            y.set(0, 0, 11);
+            y.leave(1, true);
+            int[] due = {2, 7, 0, 0};
+            c.due("told(" + what + ") asked behind a change", y.told(what), due[what - 4]);
+            y.set(0, 0, 7);
+            due = new int[] {0, 7, 5, 5};
+            c.due("told(" + what + ") asked behind another", y.told(what), due[what - 4]);
+            y.leave(0, true);
+            y.leave(1, false);
+            Check.enact(y, "near 1 p=1");
+            due = new int[] {0, 9, 3, 3};
+            c.due("told(" + what + ") asked behind a third", y.told(what), due[what - 4]);
+        }
         c.due("told(8)", x.told(8), -1);
         c.due("told(-1)", x.told(-1), -1);
     }
