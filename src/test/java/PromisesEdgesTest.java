@@ -5,6 +5,7 @@ public final class PromisesEdgesTest {
 
     public static void main(String[] args) {
         one();
+        oneWhereAnotherWas();
         of();
         set();
         leave();
@@ -49,6 +50,27 @@ public final class PromisesEdgesTest {
             c.due("GONE, " + i, x.of(i, 4), 0);
         }
         c.due("no seventh", x.of(6, 0), -1);
+    }
+
+    /** Who comes where another had been, ahead of undo(), has nothing of it. */
+    private static void oneWhereAnotherWas() {
+        WitnessPays x = new WitnessPays();
+        x.image();
+        x.one(6, 9, 11);
+        x.set(0, 1, 7);
+        x.leave(0, true);
+        for (int part = 0; part < 4; part++) {
+            x.row(0, part, 9);
+        }
+        x.undo();
+        c.due("comes", x.one(6, 1, 2), 0);
+        int[] due = {6, 1, 2, 100, 0, 4};
+        for (int what = 0; what <= 5; what++) {
+            c.due("of the new one, " + what, x.of(0, what), due[what]);
+        }
+        for (int part = 0; part < 4; part++) {
+            c.due("ROW of the new one, " + part, x.row(0, part, 0), 0);
+        }
     }
 
     /** Promise 3: of GONE ones. */

@@ -11,7 +11,9 @@ public final class TermsEdgesTest {
         numbers();
         letters();
         nesting();
+        faultByEverySign();
         faultAtTheEnd();
+        afterFaults();
         holdingLaw();
         sumBelowZero();
         reach();
@@ -133,7 +135,7 @@ public final class TermsEdgesTest {
             x.one(i + 1, i == 0 ? 9 : 0, i == 5 ? 11 : 0);
         }
         dueReach(x, 5, "far 1 p=5", 6);
-        dueReach(x, 4, "far 8 p=5", 2 - 1);
+        dueReach(x, 4, "far 8 p=5", 1);
         dueReach(x, 0, "far 1 k=1", 3);
         dueReach(x, 5, "far 1 k=6", 6);
         dueReach(x, 5, "far 1 k>6", 4);
@@ -148,9 +150,10 @@ public final class TermsEdgesTest {
         dueReach(y, 1, "far 1 v<0;far 2 a<0;far 4 k<0;far 3 p<1", 2);
         letterOfPurse();
         letterOfDay();
+        lettersBesideTheMostNumber();
     }
 
-    /** On street x, which may have six LAWS: so each has an object of its own only where they would be more. */
+    /** One more LAW on the street, which takes six. */
     private static void dueReach(WitnessPays x, int person, String law, int reach) {
         c.holds("a law: " + law, Check.enact(x, law) >= 0);
         c.due("REACH of " + person + " under " + law, x.of(person, 5), reach);
@@ -163,6 +166,18 @@ public final class TermsEdgesTest {
             WitnessPays x = street(0, 0, "far 1 m=" + row[1]);
             x.set(0, 1, row[0]);
             c.due("PURSE " + row[0] + " is m " + row[1], x.of(0, 5), 3);
+        }
+    }
+
+    /** Only m comes up to 99. */
+    private static void lettersBesideTheMostNumber() {
+        for (char letter : "pkvamd".toCharArray()) {
+            WitnessPays x = street(0, 11, "far 1 " + letter + "<99;far 2 " + letter + "=99;far 4 " + letter + ">99");
+            x.set(0, 1, 9999);
+            c.due(letter + " beside 99", x.of(0, 5), letter == 'm' ? 4 : 3);
+            WitnessPays y = street(0, 11, "far 1 " + letter + "<98;far 2 " + letter + "=98;far 4 " + letter + ">98");
+            y.set(0, 1, 9999);
+            c.due(letter + " beside 98", y.of(0, 5), letter == 'm' ? 6 : 3);
         }
     }
 
@@ -190,6 +205,48 @@ public final class TermsEdgesTest {
         c.due("behind four that are closed, a fifth", Check.enact(street(0, 0, ""), "far 1 ((((p=0))))&(((((p=0)))))"), -10 - 22);
     }
 
+    /** Every sign behind every kind of beginning: with those that are named a LAW may begin, with no other. */
+    private static void faultByEverySign() {
+        String digits = "0123456789";
+        String factor = "(!pkvamd";
+        String ten = "fine 1;fine 1;fine 1;fine 1;fine 1;fine 1;fine 1;fine 1;fine 1;";
+        String[][] rows = {
+            {"", "fn"}, {"f", "ai"}, {"fa", "r"}, {"far", " "}, {"far ", digits}, {"far 0", digits + " "}, {"far 10", " "},
+            {"n", "e"}, {"ne", "a"}, {"nea", "r"}, {"near", " "}, {"near ", digits}, {"near 9", digits + " "}, {"near 99", " "},
+            {"fi", "n"}, {"fin", "e"}, {"fine", " "}, {"fine ", digits}, {"fine 1", digits + ";"}, {"fine 12", ";"},
+            {"fine 1;", "fn"}, {"far 1 p=1;", "fn"}, {ten, "fn"}, {ten + "fine 1", digits}, {ten + "fine 12", ""},
+            {"far 1 ", factor}, {"near 12 ", factor}, {"far 1 p=1&", factor}, {"far 1 p=1|", factor}, {"far 1 p=1|p=1&", factor},
+            {"far 1 p", "<=>"}, {"far 1 k", "<=>"}, {"far 1 v", "<=>"}, {"far 1 a", "<=>"}, {"far 1 m", "<=>"}, {"far 1 d", "<=>"},
+            {"far 1 p<", digits}, {"far 1 p=", digits}, {"far 1 p>", digits},
+            {"far 1 p<1", digits + "&|;"}, {"far 1 p<12", "&|;"}, {ten + "far 1 p<1", digits + "&|"}, {ten + "far 1 p<12", "&|"},
+            {"far 1 (", factor}, {"far 1 !", factor}, {"far 1 (((", factor}, {"far 1 !!!", factor}, {"far 1 (!(", factor},
+            {"far 1 ((((", "pkvamd"}, {"far 1 !!!!", "pkvamd"}, {"far 1 (!(!", "pkvamd"}, {"far 1 ((((p=1|", "pkvamd"},
+            {"far 1 (p=1", digits + "&|)"}, {"far 1 (p=12", "&|)"}, {"far 1 (p=1)", "&|;"}, {"far 1 ((p=1)", "&|)"},
+            {"far 1 !p=1", digits + "&|;"}, {"far 1 !(p=1)", "&|;"}, {"far 1 !!!!p=1&", factor}, {"far 1 ((((p=1))))|", factor},
+            {"far 1 (((!p=1&", factor}, {"far 1 (((p=1)", "&|)"}, {"far 1 !(p=1", digits + "&|)"},
+        };
+        for (String[] row : rows) {
+            for (int sign = 0; sign <= 127; sign++) {
+                WitnessPays x = new WitnessPays();
+                int got = Check.enact(x, row[0] + (char) sign);
+                boolean goesOn = row[1].indexOf(sign) >= 0;
+                boolean isLaw = goesOn && got == 0;
+                int fault = row[0].length() + (goesOn ? 1 : 0);
+                c.due("sign " + sign + " behind " + row[0], got, isLaw ? 0 : -10 - fault);
+            }
+            c.due("the end behind " + row[0] + ", a LAW or its FAULT", Math.min(Check.enact(new WitnessPays(), row[0]), 0),
+                isWhole(row[0]) ? 0 : -10 - row[0].length());
+        }
+    }
+
+    /** Of the beginnings above: a LAW ends behind a digit of a fine, of a TEST, or behind its last bracket. */
+    private static boolean isWhole(String text) {
+        String last = text.substring(text.lastIndexOf(';') + 1);
+        long opened = last.chars().filter(sign -> sign == '(').count();
+        long closed = last.chars().filter(sign -> sign == ')').count();
+        return last.matches("fine [0-9]+|(far|near) [0-9]+ .*([<=>][0-9]+|\\))") && opened == closed;
+    }
+
     /** THE TEXT has 100 bytes at most; the end of it is the FAULT, if it ends too early. */
     private static void faultAtTheEnd() {
         StringBuilder s = new StringBuilder("far 01 p=01");
@@ -211,6 +268,26 @@ public final class TermsEdgesTest {
             c.due("FAULT of " + part.substring(0, i), Check.enact(x, part.substring(0, i)), -10 - i);
         }
         c.due("whole", Check.enact(x, part), 2);
+    }
+
+    /** What was read ahead of a FAULT is nothing, however much it was. */
+    private static void afterFaults() {
+        StringBuilder s = new StringBuilder("far 1 p=0");
+        for (int i = 0; i < 22; i++) {
+            s.append("|p=0");
+        }
+        for (int many = 0; many < 6; many++) {
+            WitnessPays x = street(0, 0, "");
+            for (int i = 0; i < many; i++) {
+                c.due("a FAULT behind 23 TESTS", Check.enact(x, s + "."), -10 - 97);
+                c.due("a FAULT behind two CLAUSES", Check.enact(x, "fine 3;far 9 p=0."), -10 - 16);
+            }
+            c.due("a LAW behind " + many, Check.enact(x, "far 2 p=1"), 0);
+            c.due("REACH", x.of(0, 5), 2);
+            c.due("FINE", x.told(1), 20);
+            c.due("another", Check.enact(x, s.toString()), 1);
+            c.due("REACH", x.of(0, 5), 3);
+        }
     }
 
     /** Six at most; without one there are no CLAUSES; FINE 20 without. */
@@ -666,6 +743,7 @@ public final class TermsEdgesTest {
         x.plan(1, 11);
         c.due("a DEED nobody SEES, row 10", x.ends(0), 59994);
         c.due("rows", x.count(3), 10);
+        eachPlanRowIsOneThing();
         WitnessPays y = street(0, 0, "");
         for (int i = 0; i < 10; i++) {
             y.plan(1, i % 2 == 0 ? 0 : 10);
@@ -680,6 +758,28 @@ public final class TermsEdgesTest {
         c.due("on DAY 10000", z.ends(1), 9);
         z.plan(0, 0);
         c.due("on DAY 10001", z.ends(1), 11);
+    }
+
+    /** With as many PEOPLE as there may be, n could mean any thing. */
+    private static void eachPlanRowIsOneThing() {
+        int[][] due = {{600, 7}, {580, 7}, {600, 9}, {600, 7}};
+        for (int what = 0; what <= 3; what++) {
+            for (int n = 0; n < 6; n++) {
+                WitnessPays x = new WitnessPays();
+                for (int i = 0; i < 6; i++) {
+                    x.one(0, 1, n);
+                }
+                x.plan(what, n);
+                c.due("ends(0) of plan(" + what + ", " + n + ")", x.ends(0), due[what][0]);
+                c.due("ends(1) of plan(" + what + ", " + n + ")", x.ends(1), due[what][1]);
+                x.plan(1, n);
+                c.due("PURSES behind a DEED", x.ends(0), due[what][0] - 20);
+                for (int i = 0; i < 5; i++) {
+                    x.leave((n + 1 + i) % 6, true);
+                }
+                c.due("that one alone", x.ends(1), what == 3 ? 12 : due[what][1]);
+            }
+        }
     }
 
     private static void book() {
