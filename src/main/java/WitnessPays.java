@@ -33,6 +33,8 @@ public final class WitnessPays {
     private static final int FAR = 0, NEAR = 1, FINE = 2;
     private static final int BASE_SUM = 2, BASE_FINE = 20, MOST_REACH = 11;
     private static final String LETTERS = "pkvamd", RELATIONS = "<=>";
+    /** Where they stand among the RELATIONS; the third is above. */
+    private static final int BELOW = 0, EQUAL = 1;
     /** A TEST is kept as one number, 0 or above, so that these can stand among TESTS. */
     private static final int AND = -1, OR = -2, NOT = -3;
     private static final int RELATION_STEP = 100, LETTER_STEP = 300;
@@ -676,8 +678,9 @@ public final class WitnessPays {
                     int letter = what / LETTER_STEP;
                     int n = letter < subject.length ? subject[letter] : 0;
                     int relation = what % LETTER_STEP / RELATION_STEP;
-                    int order = Integer.compare(n, what % RELATION_STEP);
-                    truths = (truths << 1) | (order == relation - 1 ? 1 : 0);
+                    int bound = what % RELATION_STEP;
+                    boolean so = relation == BELOW ? n < bound : relation == EQUAL ? n == bound : n > bound;
+                    truths = (truths << 1) | (so ? 1 : 0);
                 }
             }
             return (truths & 1) == 1;
@@ -1194,7 +1197,10 @@ public final class WitnessPays {
         }
     }
 
-    /** Runs the bodies of one's ACT and keeps THE TRACE. Each method takes the KIND from which on, upward, a body is sought. */
+    /**
+     * Runs the bodies of one's ACT and keeps THE TRACE. Each method takes the KIND from which on,
+     * upward, a body is sought. Their calls end, for each is for a KIND above or for an ACT ahead of its own.
+     */
     private static final class Actor {
         private final int[] bodies = new int[MOST_TRACE];
         private int ran;

@@ -8,7 +8,6 @@ import java.nio.file.Files;
 import java.nio.file.Path;
 import java.util.Set;
 import java.util.TreeSet;
-import java.util.regex.Matcher;
 import java.util.regex.Pattern;
 
 /** Looks at the program's source and classes for what ../shared/LANGUAGE.md rules out, as far as that shows. */
@@ -101,11 +100,10 @@ public final class LanguageTest {
             "Object", "System\\.out", "Exception", "volatile", "transient", "native", "var", "yield", "hashCode", "toString", "Exact"}) {
             c.holds("no " + word, !Pattern.compile("\\b" + word + "\\b").matcher(code).find());
         }
-        for (String sign : new String[] {"->", "::", "@", "\"\" +", "+ \"\""}) {
+        for (String sign : new String[] {"->", "::", "@"}) {
             c.holds("no " + sign, !code.contains(sign));
         }
         methodsAreShort(code);
-        libraryIsListed(code);
     }
 
     private static void methodsAreShort(String code) {
@@ -120,14 +118,6 @@ public final class LanguageTest {
                 end++;
             }
             c.holds("short: " + lines[i].trim() + " has " + (end - i + 1) + " lines", end - i + 1 <= 60);
-        }
-    }
-
-    private static void libraryIsListed(String code) {
-        Matcher m = Pattern.compile("\\b(System|Integer|Long|Math|Arrays|String|StringBuilder|List|ArrayList)\\.(\\w+)").matcher(code);
-        Set<String> listed = Set.of("System.arraycopy", "Integer.compare", "Integer.bitCount", "Math.min", "Math.max", "Long.MIN_VALUE");
-        while (m.find()) {
-            c.holds(m.group() + " is one of those used", listed.contains(m.group()));
         }
     }
 }
